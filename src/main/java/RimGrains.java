@@ -2,7 +2,7 @@
  * Grains that stick at random and grow trees on a plate.
  *
  * <p>No call makes an object: all rows are made with the RimGrains and used again, as a long run of calls has
- * little room.
+ * little room. A grain's holder always has the lesser number; many loops rest on that, none needs a recursion.
  */
 public final class RimGrains {
     public static final int INVALID_ARGUMENT = -1;
@@ -380,17 +380,14 @@ public final class RimGrains {
     }
 
     private int answerOfDeed(char letter, int number) {
-        int refusal;
-        switch (letter) {
-            case 'g':
-                refusal = now.refusalToGo(number);
-                return refusal != FINE ? refusal : letWalk(number);
-            case 'b':
-                refusal = now.refusalToBreak(number);
-                return refusal != FINE ? refusal : fall.dropTree(now, number);
-            default:
-                return fall.dropTips(now);
+        if (letter == 'w') {
+            return fall.dropTips(now);
         }
+        int refusal = letter == 'g' ? now.refusalToGo(number) : now.refusalToBreak(number);
+        if (refusal != FINE) {
+            return refusal;
+        }
+        return letter == 'g' ? letWalk(number) : fall.dropTree(now, number);
     }
 
     private int catchOf(int grain) {

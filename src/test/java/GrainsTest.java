@@ -77,6 +77,11 @@ public final class GrainsTest {
     }
 
     private static void beginAnew() {
+        RimGrains full = Plates.fullRim();
+        full.begin(0);
+        for (int cell = 0; cell <= 120; cell++) {
+            Check.due("cell " + cell, full.cell(cell, 0), cell == 60 ? 0 : -4);
+        }
         RimGrains x = Plates.twoStems();
         x.set(RimGrains.STICK, 2);
         x.set(RimGrains.PATIENCE, 77);
@@ -315,6 +320,16 @@ public final class GrainsTest {
         Check.due("broken off", x.count(9), 4);
         Check.due("the cell is free again", x.go(18), 1098);
         Check.due("the newest", x.cell(98, 0), 13);
+        RimGrains y = Plates.doubleT();
+        Check.due("all that is above the middle", y.breakOff(1), 13);
+        int[] cells = {60, 71, 82, 93, 104, 115, 116, 117, 118, 119, 114, 113, 112, 111};
+        int[] holders = {-4, 0, 1, 2, 3, 4, 5, 6, 7, 8, 5, 10, 11, 12};
+        int[] steps = {0, 8, 7, 6, 1, 0, 0, 0, 0, 0, 0, 0, 0, 0};
+        for (int i = 0; i < cells.length; i++) {
+            Check.due("cell of " + i, y.grain(i, 0), cells[i]);
+            Check.due("holder of " + i, y.grain(i, 1), holders[i]);
+            Check.due("steps of " + i, y.grain(i, 8), steps[i]);
+        }
     }
 
     private static void breakOffRefuses() {
@@ -353,6 +368,14 @@ public final class GrainsTest {
     }
 
     private static void washForks() {
+        RimGrains tees = Plates.doubleT();
+        for (int i = 4; i > 0; i--) {
+            Check.due("the tips of both tees", tees.wash(), 4);
+        }
+        for (int i = 5; i > 0; i--) {
+            Check.due("the tips of the column", tees.wash(), 2);
+        }
+        Check.due("the middle stays", tees.wash(), 0);
         RimGrains x = Plates.grown();
         int tips = x.count(2) - (x.grain(0, 3) == 0 ? 1 : 0);
         int grains = x.count(0);

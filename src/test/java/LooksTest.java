@@ -171,7 +171,16 @@ public final class LooksTest {
         Check.due("its lower corner from below", x.screens(27), 11);
         Check.due("its lower corner from the left", x.screens(33), 11);
         Check.due("beside it", x.screens(2), -4);
-        Check.due("the corners look down and up", x.screens(0) + x.screens(10) + x.screens(20) + x.screens(30), -16);
+        RimGrains tees = Plates.doubleT();
+        for (int corner = 0; corner <= 30; corner += 10) {
+            Check.due("the corner " + corner + " looks along its column", tees.screens(corner), -4);
+        }
+        for (int i = 1; i <= 9; i++) {
+            Check.due("from the right", tees.screens(10 + i), tees.cell(11 * i + 5, 0));
+            Check.due("from the left", tees.screens(40 - i), tees.cell(11 * i + 5, 0));
+            Check.due("at once above", tees.screens(i), tees.cell(i, 0));
+            Check.due("at once below", tees.screens(30 - i), tees.cell(110 + i, 0));
+        }
         RimGrains y = new RimGrains();
         y.begin(1);
         y.go(19);
@@ -228,31 +237,12 @@ public final class LooksTest {
         Check.due("apart(17, 0)", x.apart(17, 0), -1);
         Check.due("apart(0, 17)", x.apart(0, 17), -1);
         Check.due("wrong rather than other roots", x.apart(17, 17), -1);
-        RimGrains y = forked();
-        int right = y.cell(61, 0);
-        int below = y.cell(71, 0);
-        Check.due("over the fork", y.apart(right, below), 2);
-        Check.due("over the fork, back", y.apart(below, right), 2);
-    }
-
-    /** A root in the middle with one grain above, one to the right, one below, each let in straight by the wind. */
-    private static RimGrains forked() {
-        RimGrains x = new RimGrains();
-        x.set(RimGrains.WIND, 4);
-        letIn(x, 2, 5, 1049);
-        letIn(x, 3, 15, 1061);
-        letIn(x, 0, 25, 1071);
-        return x;
-    }
-
-    private static void letIn(RimGrains x, int way, int rim, int answer) {
-        x.set(RimGrains.WAY, way);
-        int lot = 0;
-        while (lot < 9999 && x.ifGone(rim, 0) != answer) {
-            lot++;
-            x.lot(lot);
-        }
-        Check.due("let in at " + rim, x.go(rim), answer);
+        RimGrains y = Plates.doubleT();
+        Check.due("over the root", y.apart(1, 6), 2);
+        Check.due("over the upper fork", y.apart(14, 18), 8);
+        Check.due("over the upper fork, back", y.apart(18, 14), 8);
+        Check.due("over all", y.apart(14, 22), 18);
+        Check.due("to the fork", y.apart(26, 10), 4);
     }
 
     private static void longest() {
@@ -267,14 +257,24 @@ public final class LooksTest {
         x = Plates.fullRim();
         Check.due("the full rim", x.longest(0), 29);
         Check.due("the full rim", x.longest(1), 29);
-        x = forked();
-        Check.due("the fork", x.longest(0), 2);
-        Check.due("the fork", x.longest(1), 2);
-        Check.due("its depth", x.count(4), 1);
-        Check.due("one fork of three", x.count(3) * 10 + x.grain(0, 3), 13);
+        x = Plates.doubleT();
+        longestIs(x, 18);
+        x.breakOff(23);
+        longestIs(x, 18);
+        x.breakOff(19);
+        longestIs(x, 14);
+        x.breakOff(16);
+        longestIs(x, 14);
+        x.breakOff(6);
+        longestIs(x, 9);
         x.begin(2);
         Check.due("roots alone", x.longest(0), 0);
         Check.due("roots alone", x.longest(1), 0);
+    }
+
+    private static void longestIs(RimGrains x, int longest) {
+        Check.due("longest(0)", x.longest(0), longest);
+        Check.due("longest(1)", x.longest(1), longest);
     }
 
     private static void longestBothWays() {
@@ -314,9 +314,11 @@ public final class LooksTest {
         x.begin(0);
         Check.due("around the middle", x.count(6), 4);
         Check.due("a root alone is a tip", x.count(2), 1);
-        RimGrains y = forked();
-        Check.due("the tips of a fork", y.count(2), 3);
-        Check.due("the reach", y.count(5), 1);
+        int[] tees = {27, 1, 4, 3, 9, 5, 34, 26, 0, 0, 6 + 5 + 2 + 1 + 8 + 7 + 6 + 1, 2, 0, 4, 60, 4, 0};
+        RimGrains y = Plates.doubleT();
+        for (int what = 0; what < tees.length; what++) {
+            Check.due("tees count(" + what + ")", y.count(what), tees[what]);
+        }
     }
 
     private static void countOfWalks() {
@@ -327,15 +329,11 @@ public final class LooksTest {
         Check.due("let go", x.count(7), 3);
         Check.due("lost", x.count(8), 3);
         Check.due("steps", x.count(10), 1 + 60 + 60);
-        x = forked();
-        Check.due("let go", x.count(7), 3);
-        Check.due("lost", x.count(8), 0);
-        Check.due("steps of those that stick", x.count(10), x.grain(1, 8) + x.grain(2, 8) + x.grain(3, 8));
-        int steps = x.count(10);
-        x.breakOff(3);
-        Check.due("steps stay when a grain is gone", x.count(10), steps);
-        Check.due("let go stays", x.count(7), 3);
-        Check.due("gone", x.count(9), 1);
+        x = Plates.doubleT();
+        x.breakOff(6);
+        Check.due("steps stay when grains are gone", x.count(10), 36);
+        Check.due("let go stays", x.count(7), 26);
+        Check.due("gone", x.count(9), 13);
         Check.due("lost is not gone", x.count(8), 0);
     }
 
@@ -352,9 +350,10 @@ public final class LooksTest {
         x = Plates.fullRim();
         Check.due("the full rim catches one each", x.count(11), 1);
         Check.due("the lowest of them", x.count(12), 0);
-        x = forked();
-        Check.due("three sides are taken", x.grain(0, 6), 1);
-        Check.due("the grain above, from above, the left and the right", x.grain(x.cell(49, 0), 6), 3);
+        x = Plates.doubleT();
+        x.breakOff(2);
+        Check.due("the middle, from the left and the right", x.grain(0, 6), 2);
+        Check.due("the grain above, from above too", x.grain(1, 6), 3);
         Check.due("the most", x.count(11), 3);
         Check.due("the lowest with it", x.count(12), 1);
         int catches = 0;
@@ -375,8 +374,11 @@ public final class LooksTest {
         Check.dueDouble("the row", x.density(), 11.0 / 121.0);
         x.begin(2);
         Check.dueDouble("the circle", x.density(), 0.64);
-        x = forked();
-        Check.dueDouble("the fork", x.density(), 4.0 / 9.0);
+        x.begin(0);
+        x.set(RimGrains.WIND, 4);
+        x.lot(0);
+        x.go(5);
+        Check.dueDouble("two", x.density(), 2.0 / 9.0);
         x = Plates.grown();
         int width = 2 * x.count(5) + 1;
         Check.dueDouble("grown", x.density(), (double) x.count(0) / (double) (width * width));

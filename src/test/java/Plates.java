@@ -31,6 +31,37 @@ final class Plates {
         return x;
     }
 
+    /**
+     * The column 5 from the middle up (grains 1 to 5, the cells 49, 38, 27, 16, 5) and down (6 to 10, the cells 71,
+     * 82, 93, 104, 115); then along the row 0 to the left (11 to 14, the cells 4 to 1) and to the right (15 to 18, the
+     * cells 6 to 9), along the row 10 to the right (19 to 22, the cells 116 to 119) and to the left (23 to 26, the
+     * cells 114 to 111). With the WIND 4 and the lot 0 each grain of the column comes straight enough.
+     */
+    static RimGrains doubleT() {
+        RimGrains x = new RimGrains();
+        x.set(RimGrains.WIND, 4);
+        for (int i = 0; i < 10; i++) {
+            if (i % 5 == 0) {
+                x.set(RimGrains.WAY, i == 0 ? 2 : 0);
+            }
+            x.lot(0);
+            x.go(i < 5 ? 5 : 25);
+        }
+        for (int i = 1; i <= 4; i++) {
+            x.go(5 - i);
+        }
+        for (int i = 1; i <= 4; i++) {
+            x.go(5 + i);
+        }
+        for (int i = 1; i <= 4; i++) {
+            x.go(25 - i);
+        }
+        for (int i = 1; i <= 4; i++) {
+            x.go(25 + i);
+        }
+        return x;
+    }
+
     /** The greatest plate with forks that the tests use. */
     static RimGrains grown() {
         RimGrains x = new RimGrains();

@@ -94,9 +94,12 @@ public final class WouldBeTest {
         x = Plates.fullRim();
         broken(x, 11, 11, 5, 0, 18);
         broken(x, x.cell(109, 0), 39, 5, 28, 0);
-        x = new RimGrains();
-        x.set(RimGrains.WIND, 4);
-        x.go(5);
+        x = Plates.doubleT();
+        broken(x, 1, 14, 5, 9, 12);
+        broken(x, 6, 14, 5, 9, 12);
+        broken(x, 11, 23, 5, 9, 4);
+        x.breakOff(6);
+        broken(x, 5, 5, 4, 4, 40 - 12);
         broken(x, 1, 1, 0, 0, 36);
     }
 
