@@ -26,7 +26,7 @@ public final class GrainsTest {
     }
 
     private static void newObject() {
-        RimGrains x = new RimGrains();
+        Grains x = new Grains();
         Check.due("new count(0)", x.count(0), 1);
         Check.due("new count(1)", x.count(1), 1);
         Check.due("new grain(0, 0)", x.grain(0, 0), 60);
@@ -53,7 +53,7 @@ public final class GrainsTest {
     }
 
     private static void begin() {
-        RimGrains x = new RimGrains();
+        Grains x = new Grains();
         Check.due("begin(1)", x.begin(1), 11);
         for (int i = 0; i < 11; i++) {
             Check.due("row root " + i, x.grain(i, 0), 110 + i);
@@ -77,12 +77,12 @@ public final class GrainsTest {
     }
 
     private static void beginAnew() {
-        RimGrains full = Plates.fullRim();
+        Grains full = Plates.fullRim();
         full.begin(0);
         for (int cell = 0; cell <= 120; cell++) {
             Check.due("cell " + cell, full.cell(cell, 0), cell == 60 ? 0 : -4);
         }
-        RimGrains x = Plates.twoStems();
+        Grains x = Plates.twoStems();
         x.set(RimGrains.STICK, 2);
         x.set(RimGrains.PATIENCE, 77);
         x.set(RimGrains.WIND, 3);
@@ -104,7 +104,7 @@ public final class GrainsTest {
     }
 
     private static void lot() {
-        RimGrains x = new RimGrains();
+        Grains x = new Grains();
         Check.due("lot(0)", x.lot(0), 1);
         Check.due("lot(9999)", x.lot(9999), 0);
         Check.due("lot(5)", x.lot(5), 9999);
@@ -118,7 +118,7 @@ public final class GrainsTest {
 
     /** With STICK 4 one lot is drawn beside a grain, and the grain sticks whatever it is. */
     private static void goSticks() {
-        RimGrains x = new RimGrains();
+        Grains x = new Grains();
         x.begin(1);
         Check.due("go(31)", x.go(31), 1099);
         Check.due("one lot is drawn", x.count(17), 2084);
@@ -145,7 +145,7 @@ public final class GrainsTest {
 
     /** The lots behind 1 are 2084, 9027, 2030, 6293, ..: up, left, down, right, .. by the remainder by 4. */
     private static void goIsLost() {
-        RimGrains x = new RimGrains();
+        Grains x = new Grains();
         Check.due("off the plate at once", x.go(5), 1);
         Check.due("the lot then", x.count(17), 2084);
         Check.due("let go", x.count(7), 1);
@@ -156,9 +156,9 @@ public final class GrainsTest {
         Check.due("lost", x.count(8), 2);
         Check.due("steps", x.count(10), 61);
         x.set(RimGrains.PATIENCE, 10);
-        Check.due("a lot for each step", x.lot(2084), lotAfter(2084, 60));
+        Check.due("a lot for each step", x.lot(2084), Lots.after(2084, 60));
         Check.due("lost by PATIENCE", x.go(5), 10);
-        Check.due("no lot for a step more", x.count(17), lotAfter(2084, 10));
+        Check.due("no lot for a step more", x.count(17), Lots.after(2084, 10));
         Check.due("steps", x.count(10), 71);
         x.lot(9027);
         Check.due("corner, down first", x.go(0), 10);
@@ -166,16 +166,8 @@ public final class GrainsTest {
         Check.due("corner, off to the left", x.go(0), 1);
     }
 
-    private static int lotAfter(int lot, int draws) {
-        int then = lot;
-        for (int i = 0; i < draws; i++) {
-            then = (421 * then + 1663) % 10000;
-        }
-        return then;
-    }
-
     private static void goRefuses() {
-        RimGrains x = Plates.fullRim();
+        Grains x = Plates.fullRim();
         String before = Plates.everything(x);
         for (int rim = 0; rim < 40; rim++) {
             Check.due("full rim go(" + rim + ")", x.go(rim), -2);
@@ -189,7 +181,7 @@ public final class GrainsTest {
 
     /** Behind the lot 2084: 9027 (3 by 4: no hold), 2030 (down, where a grain is: a step, no move), 6293 (1 by 4). */
     private static void goChance() {
-        RimGrains x = new RimGrains();
+        Grains x = new Grains();
         x.begin(1);
         x.lot(2084);
         x.set(RimGrains.STICK, 3);
@@ -213,7 +205,7 @@ public final class GrainsTest {
     }
 
     private static void goHoldsInLowestDirection() {
-        RimGrains x = Plates.fullRim();
+        Grains x = Plates.fullRim();
         int last = x.cell(109, 0);
         Check.due("up before down", x.grain(last, 1), x.cell(98, 0));
         Check.due("its depth", x.grain(last, 2), 29);
@@ -239,7 +231,7 @@ public final class GrainsTest {
 
     /** By 8 the lots behind 1 are 4 (the wind), 3, 6 (the wind), 5 (the wind), 0, 7 (the wind), ... */
     private static void goWithWind() {
-        RimGrains x = new RimGrains();
+        Grains x = new Grains();
         x.set(RimGrains.WIND, 4);
         x.set(RimGrains.PATIENCE, 10);
         Check.due("down, left, down, down, up, down, down, right: sticks above the middle", x.go(5), 1049);
@@ -262,7 +254,7 @@ public final class GrainsTest {
     }
 
     private static void rain() {
-        RimGrains x = new RimGrains();
+        Grains x = new Grains();
         x.begin(1);
         x.lot(8);
         Check.due("the lot 5031 leads to the rim 31, 9714 lets it stick", x.rain(1), 1);
@@ -274,7 +266,7 @@ public final class GrainsTest {
         Check.due("let go", x.count(7), 2);
         Check.due("lost", x.count(8), 1);
         Check.due("steps", x.count(10), 0);
-        RimGrains y = new RimGrains();
+        Grains y = new Grains();
         y.begin(1);
         x.begin(1);
         x.lot(2505);
@@ -293,17 +285,17 @@ public final class GrainsTest {
     }
 
     private static void rainOnFullRim() {
-        RimGrains x = Plates.fullRim();
+        Grains x = Plates.fullRim();
         x.lot(7);
         Check.due("rain(20)", x.rain(20), 0);
         Check.due("lost at once", x.count(8), 20);
         Check.due("let go", x.count(7), 29 + 20);
         Check.due("no steps", x.count(10), 0);
-        Check.due("twenty lots", x.count(17), lotAfter(7, 20));
+        Check.due("twenty lots", x.count(17), Lots.after(7, 20));
     }
 
     private static void breakOff() {
-        RimGrains x = Plates.twoStems();
+        Grains x = Plates.twoStems();
         Check.due("a stem from its second grain on", x.breakOff(12), 3);
         Check.due("grains", x.count(0), 14);
         Check.due("broken off", x.count(9), 3);
@@ -320,7 +312,7 @@ public final class GrainsTest {
         Check.due("broken off", x.count(9), 4);
         Check.due("the cell is free again", x.go(18), 1098);
         Check.due("the newest", x.cell(98, 0), 13);
-        RimGrains y = Plates.doubleT();
+        Grains y = Plates.doubleT();
         Check.due("all that is above the middle", y.breakOff(1), 13);
         int[] cells = {60, 71, 82, 93, 104, 115, 116, 117, 118, 119, 114, 113, 112, 111};
         int[] holders = {-4, 0, 1, 2, 3, 4, 5, 6, 7, 8, 5, 10, 11, 12};
@@ -333,7 +325,7 @@ public final class GrainsTest {
     }
 
     private static void breakOffRefuses() {
-        RimGrains x = Plates.twoStems();
+        Grains x = Plates.twoStems();
         String before = Plates.everything(x);
         for (int root = 0; root < 11; root++) {
             Check.due("breakOff(" + root + ")", x.breakOff(root), -2);
@@ -346,7 +338,7 @@ public final class GrainsTest {
     }
 
     private static void wash() {
-        RimGrains x = Plates.twoStems();
+        Grains x = Plates.twoStems();
         Check.due("the tips of both stems", x.wash(), 2);
         Check.due("washed away", x.count(9), 2);
         Check.due("free", x.cell(66, 0), -4);
@@ -362,13 +354,13 @@ public final class GrainsTest {
         int lot = x.count(17);
         x.wash();
         Check.due("no lot", x.count(17), lot);
-        RimGrains y = new RimGrains();
+        Grains y = new Grains();
         Check.due("wash() of a root alone", y.wash(), 0);
         Check.due("is a change", y.count(19), 1);
     }
 
     private static void washForks() {
-        RimGrains tees = Plates.doubleT();
+        Grains tees = Plates.doubleT();
         for (int i = 4; i > 0; i--) {
             Check.due("the tips of both tees", tees.wash(), 4);
         }
@@ -376,7 +368,7 @@ public final class GrainsTest {
             Check.due("the tips of the column", tees.wash(), 2);
         }
         Check.due("the middle stays", tees.wash(), 0);
-        RimGrains x = Plates.grown();
+        Grains x = Plates.grown();
         int tips = x.count(2) - (x.grain(0, 3) == 0 ? 1 : 0);
         int grains = x.count(0);
         int deepest = x.count(4);
@@ -387,7 +379,7 @@ public final class GrainsTest {
     }
 
     private static void set() {
-        RimGrains x = new RimGrains();
+        Grains x = new Grains();
         int[] least = {1, 10, 0, 0};
         int[] most = {4, 200, 4, 3};
         int[] first = {4, 60, 0, 2};
@@ -404,7 +396,7 @@ public final class GrainsTest {
     }
 
     private static void setRefuses() {
-        RimGrains x = new RimGrains();
+        Grains x = new Grains();
         int[] least = {1, 10, 0, 0};
         int[] most = {4, 200, 4, 3};
         String before = Plates.everything(x);

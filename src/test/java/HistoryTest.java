@@ -14,8 +14,8 @@ public final class HistoryTest {
         Check.end("HistoryTest");
     }
 
-    private static RimGrains begun() {
-        RimGrains x = Plates.twoStems();
+    private static Grains begun() {
+        Grains x = Plates.twoStems();
         x.rain(20);
         x.breakOff(12);
         x.save();
@@ -27,7 +27,7 @@ public final class HistoryTest {
         return x;
     }
 
-    private static int change(RimGrains x, int which) {
+    private static int change(Grains x, int which) {
         switch (which) {
             case 0: return x.begin(2);
             case 1: return x.lot(77);
@@ -45,7 +45,7 @@ public final class HistoryTest {
 
     private static void undoEachChange() {
         for (int which = 0; which <= 10; which++) {
-            RimGrains x = begun();
+            Grains x = begun();
             Plates.type(x, "w;g0;b11");
             String before = Plates.state(x);
             Check.holds("change " + which + " is no error", change(x, which) >= 0);
@@ -58,7 +58,7 @@ public final class HistoryTest {
     }
 
     private static void undoOnlyChanges() {
-        RimGrains x = begun();
+        Grains x = begun();
         x.append('w');
         x.clear();
         x.save();
@@ -77,11 +77,11 @@ public final class HistoryTest {
         x.carryOut();
         Check.due("no change", x.count(19), 0);
         Check.due("nothing to undo", x.undo(), -2);
-        Check.due("restore without a snapshot", new RimGrains().restore(), -2);
+        Check.due("restore without a snapshot", new Grains().restore(), -2);
     }
 
     private static void atMostFour() {
-        RimGrains x = new RimGrains();
+        Grains x = new Grains();
         for (int i = 1; i <= 7; i++) {
             x.lot(100 * i);
             Check.due("states", x.count(19), Math.min(i, 4));
@@ -104,7 +104,7 @@ public final class HistoryTest {
     }
 
     private static void undoKeepsPadAndSnapshot() {
-        RimGrains x = new RimGrains();
+        Grains x = new Grains();
         x.begin(1);
         x.go(31);
         Plates.type(x, "g5;w");
@@ -119,7 +119,7 @@ public final class HistoryTest {
     }
 
     private static void save() {
-        RimGrains x = new RimGrains();
+        Grains x = new Grains();
         Check.due("save()", x.save(), 1);
         x.begin(1);
         Check.due("save()", x.save(), 11);
@@ -131,7 +131,7 @@ public final class HistoryTest {
     }
 
     private static void restore() {
-        RimGrains x = Plates.twoStems();
+        Grains x = Plates.twoStems();
         x.set(RimGrains.WIND, 2);
         x.set(RimGrains.STICK, 3);
         x.breakOff(13);
@@ -159,7 +159,7 @@ public final class HistoryTest {
     }
 
     private static void restoreIsAChange() {
-        RimGrains x = new RimGrains();
+        Grains x = new Grains();
         x.begin(1);
         x.save();
         String saved = Plates.state(x);
@@ -172,7 +172,7 @@ public final class HistoryTest {
         Check.holds("as before the restore", before.equals(Plates.state(x)));
         Check.due("restore()", x.restore(), 11);
         Check.holds("as it was saved", saved.equals(Plates.state(x)));
-        RimGrains y = new RimGrains();
+        Grains y = new Grains();
         String nothing = Plates.everything(y);
         Check.due("no snapshot", y.restore(), -2);
         Check.holds("restore refused changes nothing", nothing.equals(Plates.everything(y)));

@@ -26,7 +26,7 @@ public final class LooksTest {
     }
 
     private static void cell() {
-        RimGrains x = Plates.twoStems();
+        Grains x = Plates.twoStems();
         Check.due("a root's cell", x.cell(115, 0), 5);
         Check.due("a grain's cell", x.cell(98, 0), 16);
         Check.due("no grain", x.cell(60, 0), -4);
@@ -50,7 +50,7 @@ public final class LooksTest {
     }
 
     private static void cellsOfTheRim() {
-        RimGrains x = new RimGrains();
+        Grains x = new Grains();
         int onRim = 0;
         for (int cell = 0; cell <= 120; cell++) {
             int row = cell / 11;
@@ -69,7 +69,7 @@ public final class LooksTest {
     }
 
     private static void cellRefuses() {
-        RimGrains x = new RimGrains();
+        Grains x = new Grains();
         Check.due("cell(-1, 0)", x.cell(-1, 0), -1);
         Check.due("cell(121, 1)", x.cell(121, 1), -1);
         Check.due("cell(MIN, 2)", x.cell(Integer.MIN_VALUE, 2), -1);
@@ -79,7 +79,7 @@ public final class LooksTest {
     }
 
     private static void grainOnStems() {
-        RimGrains x = Plates.twoStems();
+        Grains x = Plates.twoStems();
         int[][] want = {
             {110, -4, 0, 1, 5, 4, 1, 0, 0},
             {111, -4, 0, 0, 1, 0, 2, 1, 0},
@@ -98,7 +98,7 @@ public final class LooksTest {
 
     /** What must fit together on any plate with forks. */
     private static void grainSums() {
-        RimGrains x = Plates.grown();
+        Grains x = Plates.grown();
         Check.due("the root's tree", x.grain(0, 4), x.count(0));
         Check.due("the root's height", x.grain(0, 5), x.count(4));
         int holds = 0;
@@ -128,7 +128,7 @@ public final class LooksTest {
     }
 
     private static void grainRefuses() {
-        RimGrains x = Plates.twoStems();
+        Grains x = Plates.twoStems();
         Check.due("grain(-1, 0)", x.grain(-1, 0), -1);
         Check.due("grain(17, 0)", x.grain(17, 0), -1);
         Check.due("grain(121, 1)", x.grain(121, 1), -1);
@@ -141,7 +141,7 @@ public final class LooksTest {
     }
 
     private static void screensOfTheMiddle() {
-        RimGrains x = new RimGrains();
+        Grains x = new Grains();
         for (int rim = 0; rim < 40; rim++) {
             boolean straight = rim == 5 || rim == 15 || rim == 25 || rim == 35;
             Check.due("screens(" + rim + ")", x.screens(rim), straight ? 0 : -4);
@@ -149,7 +149,7 @@ public final class LooksTest {
     }
 
     private static void screensAround() {
-        RimGrains x = Plates.twoStems();
+        Grains x = Plates.twoStems();
         Check.due("column 0: the tip of the stem", x.screens(0), 14);
         Check.due("column 1: its root", x.screens(1), 1);
         Check.due("column 10, by the row: the other tip", x.screens(10), 16);
@@ -171,7 +171,7 @@ public final class LooksTest {
         Check.due("its lower corner from below", x.screens(27), 11);
         Check.due("its lower corner from the left", x.screens(33), 11);
         Check.due("beside it", x.screens(2), -4);
-        RimGrains tees = Plates.doubleT();
+        Grains tees = Plates.doubleT();
         for (int corner = 0; corner <= 30; corner += 10) {
             Check.due("the corner " + corner + " looks along its column", tees.screens(corner), -4);
         }
@@ -181,14 +181,14 @@ public final class LooksTest {
             Check.due("at once above", tees.screens(i), tees.cell(i, 0));
             Check.due("at once below", tees.screens(30 - i), tees.cell(110 + i, 0));
         }
-        RimGrains y = new RimGrains();
+        Grains y = new Grains();
         y.begin(1);
         y.go(19);
         y.go(18);
         Check.due("the corner 20 looks up from its own root", y.screens(20), 10);
         Check.due("row 9 from the left, over the plate", y.screens(31), 11);
         Check.due("row 8 from the left", y.screens(32), 12);
-        RimGrains z = Plates.fullRim();
+        Grains z = Plates.fullRim();
         for (int rim = 0; rim < 40; rim++) {
             Check.due("full rim: each cell itself", z.screens(rim), z.cell(z.grain(z.screens(rim), 0), 0));
             Check.due("full rim: each cell itself", z.cell(z.grain(z.screens(rim), 0), 3), rim);
@@ -196,20 +196,20 @@ public final class LooksTest {
     }
 
     private static void screensRefuses() {
-        RimGrains x = new RimGrains();
+        Grains x = new Grains();
         Check.due("screens(-1)", x.screens(-1), -1);
         Check.due("screens(40)", x.screens(40), -1);
         Check.due("screens(MIN)", x.screens(Integer.MIN_VALUE), -1);
     }
 
     private static void ring() {
-        RimGrains x = Plates.twoStems();
+        Grains x = Plates.twoStems();
         Check.due("ring(5)", x.ring(5), 17);
         Check.due("ring(4)", x.ring(4), 0);
         Check.due("ring(0)", x.ring(0), 0);
         Check.due("ring(-1)", x.ring(-1), -1);
         Check.due("ring(6)", x.ring(6), -1);
-        RimGrains y = Plates.grown();
+        Grains y = Plates.grown();
         int grains = 0;
         for (int ring = 0; ring <= 5; ring++) {
             grains += y.ring(ring);
@@ -223,7 +223,7 @@ public final class LooksTest {
     }
 
     private static void apart() {
-        RimGrains x = Plates.twoStems();
+        Grains x = Plates.twoStems();
         Check.due("itself", x.apart(14, 14), 0);
         Check.due("a root itself", x.apart(3, 3), 0);
         Check.due("holder", x.apart(14, 13), 1);
@@ -237,7 +237,7 @@ public final class LooksTest {
         Check.due("apart(17, 0)", x.apart(17, 0), -1);
         Check.due("apart(0, 17)", x.apart(0, 17), -1);
         Check.due("wrong rather than other roots", x.apart(17, 17), -1);
-        RimGrains y = Plates.doubleT();
+        Grains y = Plates.doubleT();
         Check.due("over the root", y.apart(1, 6), 2);
         Check.due("over the upper fork", y.apart(14, 18), 8);
         Check.due("over the upper fork, back", y.apart(18, 14), 8);
@@ -246,7 +246,7 @@ public final class LooksTest {
     }
 
     private static void longest() {
-        RimGrains x = new RimGrains();
+        Grains x = new Grains();
         Check.due("a root alone", x.longest(0), 0);
         Check.due("a root alone", x.longest(1), 0);
         Check.due("longest(-1)", x.longest(-1), -1);
@@ -272,13 +272,13 @@ public final class LooksTest {
         Check.due("roots alone", x.longest(1), 0);
     }
 
-    private static void longestIs(RimGrains x, int longest) {
+    private static void longestIs(Grains x, int longest) {
         Check.due("longest(0)", x.longest(0), longest);
         Check.due("longest(1)", x.longest(1), longest);
     }
 
     private static void longestBothWays() {
-        RimGrains x = Plates.grown();
+        Grains x = Plates.grown();
         int longest = 0;
         for (int one = 0; one < x.count(0); one++) {
             for (int other = 0; other < x.count(0); other++) {
@@ -294,7 +294,7 @@ public final class LooksTest {
     }
 
     private static void count() {
-        RimGrains x = Plates.twoStems();
+        Grains x = Plates.twoStems();
         int[] want = {17, 11, 11, 0, 4, 5, 15, 6, 0, 0, 0, 3, 14, 4, 60, 0, 2};
         for (int what = 0; what < want.length; what++) {
             Check.due("count(" + what + ")", x.count(what), want[what]);
@@ -315,14 +315,14 @@ public final class LooksTest {
         Check.due("around the middle", x.count(6), 4);
         Check.due("a root alone is a tip", x.count(2), 1);
         int[] tees = {27, 1, 4, 3, 9, 5, 34, 26, 0, 0, 6 + 5 + 2 + 1 + 8 + 7 + 6 + 1, 2, 0, 4, 60, 4, 0};
-        RimGrains y = Plates.doubleT();
+        Grains y = Plates.doubleT();
         for (int what = 0; what < tees.length; what++) {
             Check.due("tees count(" + what + ")", y.count(what), tees[what]);
         }
     }
 
     private static void countOfWalks() {
-        RimGrains x = new RimGrains();
+        Grains x = new Grains();
         x.go(5);
         x.go(5);
         x.go(5);
@@ -338,7 +338,7 @@ public final class LooksTest {
     }
 
     private static void countOfCatches() {
-        RimGrains x = new RimGrains();
+        Grains x = new Grains();
         Check.due("the middle catches four", x.count(11), 4);
         Check.due("the middle", x.count(12), 0);
         x.begin(1);
@@ -368,7 +368,7 @@ public final class LooksTest {
     }
 
     private static void density() {
-        RimGrains x = new RimGrains();
+        Grains x = new Grains();
         Check.dueDouble("the middle", x.density(), 1.0);
         x.begin(1);
         Check.dueDouble("the row", x.density(), 11.0 / 121.0);
@@ -385,7 +385,7 @@ public final class LooksTest {
     }
 
     private static void looksChangeNothing() {
-        RimGrains x = Plates.grown();
+        Grains x = Plates.grown();
         Plates.type(x, "w;b0");
         x.carryOut();
         Plates.type(x, "g1;");

@@ -312,6 +312,18 @@ final class Model {
         return walk(plate, rim).answer;
     }
 
+    /** What go() would return if the wind, its way and the lot were these. */
+    int wouldGo(int wind, int way, int rim, int lot) {
+        if (goError(rim) != 0) {
+            return goError(rim);
+        }
+        Plate then = plate.copy();
+        then.settings[2] = wind;
+        then.settings[3] = way;
+        then.lot = lot;
+        return walk(then, rim).answer;
+    }
+
     int rain(int grains) {
         if (grains < 1 || grains > 20) {
             return -1;

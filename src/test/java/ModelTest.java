@@ -1,7 +1,9 @@
 /** Runs of calls drawn by a fixed rule, on the program and on the model: every answer is compared. */
 public final class ModelTest {
     private static final int RUNS = 400;
-    private static final int CALLS = 512;
+    private static final int CALLS_TO_A_SWEEP = 160;
+    private static final int MOST_CALLS_OF_A_TEXT = 160;
+    private static final int MOST_SIGNS = 70;
 
     private static long seed = 20261119L;
     private static String where = "";
@@ -35,27 +37,30 @@ public final class ModelTest {
     }
 
     private static void runOnce(int run) {
-        RimGrains program = new RimGrains();
+        Grains program = new Grains();
         Model model = new Model();
-        int kind = run % 5;
-        if (kind >= 1) {
-            due("begin", program.begin(kind % 3), model.begin(kind % 3));
+        int opening = run % 5;
+        if (opening >= 1) {
+            due("begin", program.begin(opening % 3), model.begin(opening % 3));
         }
-        if (kind >= 2) {
+        if (opening >= 2) {
             int wind = pick(5);
             due("set", program.set(2, wind), model.set(2, wind));
         }
-        for (int call = 0; call < CALLS; call++) {
-            where = "run " + run + " call " + call + ": ";
-            if (pick(3) == 0) {
+        int sweeps = 0;
+        while (program.made() < Grains.MOST_CALLS) {
+            where = "run " + run + " call " + program.made() + ": ";
+            int kind = pick(12);
+            if (kind < 5) {
                 change(program, model);
-            } else if (pick(4) == 0) {
+            } else if (kind < 6 && program.made() < Grains.MOST_CALLS - MOST_CALLS_OF_A_TEXT) {
                 text(program, model);
             } else {
                 look(program, model);
             }
-            if (call % 128 == 127) {
-                sweep(program, model);
+            if (program.made() / CALLS_TO_A_SWEEP > sweeps) {
+                sweeps++;
+                sweep(program.copy(), model);
             }
         }
     }
@@ -64,7 +69,7 @@ public final class ModelTest {
         Check.due(where + call, got, want);
     }
 
-    private static void change(RimGrains program, Model model) {
+    private static void change(Grains program, Model model) {
         int a = near(0, 39);
         int b;
         switch (pick(20)) {
@@ -113,7 +118,7 @@ public final class ModelTest {
         }
     }
 
-    private static void text(RimGrains program, Model model) {
+    private static void text(Grains program, Model model) {
         switch (pick(8)) {
             case 0:
                 due("clear", program.clear(), model.clear());
@@ -139,10 +144,13 @@ public final class ModelTest {
         }
     }
 
-    private static void type(RimGrains program, Model model, String text) {
+    private static void type(Grains program, Model model, String text) {
+        boolean eachFault = pick(4) == 0;
         for (int i = 0; i < text.length(); i++) {
             due("append", program.append(text.charAt(i)), model.append(text.charAt(i)));
-            due("fault after " + text.substring(0, i + 1), program.fault(), model.fault());
+            if (eachFault) {
+                due("fault after " + text.substring(0, i + 1), program.fault(), model.fault());
+            }
         }
     }
 
@@ -163,10 +171,11 @@ public final class ModelTest {
         if (pick(8) == 0) {
             text.insert(pick(text.length() + 1), "0;gbw9 x1:/".charAt(pick(11)));
         }
+        text.setLength(Math.min(text.length(), MOST_SIGNS));
         return text.toString();
     }
 
-    private static void look(RimGrains program, Model model) {
+    private static void look(Grains program, Model model) {
         int a = near(0, model.count(0) - 1);
         int b = near(0, model.count(0) - 1);
         int what;
@@ -212,7 +221,7 @@ public final class ModelTest {
         }
     }
 
-    private static void sweep(RimGrains program, Model model) {
+    private static void sweep(Grains program, Model model) {
         int grains = model.count(0);
         for (int what = -1; what <= 20; what++) {
             due("count " + what, program.count(what), model.count(what));
@@ -238,7 +247,7 @@ public final class ModelTest {
         Check.dueDouble(where + "density", program.density(), model.density());
     }
 
-    private static void sweepGrains(RimGrains program, Model model, int grains) {
+    private static void sweepGrains(Grains program, Model model, int grains) {
         for (int grain = -1; grain <= grains; grain++) {
             for (int what = -1; what <= 9; what++) {
                 due("grain " + grain + " " + what, program.grain(grain, what), model.grain(grain, what));

@@ -23,7 +23,7 @@ public final class TextsTest {
     }
 
     private static void append() {
-        RimGrains x = new RimGrains();
+        Grains x = new Grains();
         Check.due("append(33)", x.append(33), 1);
         Check.due("append(126)", x.append(126), 2);
         Check.due("append('g')", x.append('g'), 3);
@@ -32,7 +32,7 @@ public final class TextsTest {
     }
 
     private static void appendRefuses() {
-        RimGrains x = new RimGrains();
+        Grains x = new Grains();
         int[] wrong = {32, 127, -1, 0, 65536 + 'w', Integer.MAX_VALUE, Integer.MIN_VALUE};
         for (int code : wrong) {
             Check.due("append(" + code + ")", x.append(code), -1);
@@ -49,7 +49,7 @@ public final class TextsTest {
     }
 
     private static void clear() {
-        RimGrains x = new RimGrains();
+        Grains x = new Grains();
         Check.due("clear() of nothing", x.clear(), 0);
         Plates.type(x, "g1;w");
         Check.due("clear()", x.clear(), 4);
@@ -62,7 +62,7 @@ public final class TextsTest {
     }
 
     private static void faultIs(String text, int fault) {
-        RimGrains x = new RimGrains();
+        Grains x = new Grains();
         Plates.type(x, text);
         Check.due("fault of " + text, x.fault(), fault);
         Check.due("pad of " + text, x.count(18), text.length());
@@ -91,7 +91,8 @@ public final class TextsTest {
 
     private static void faultOfWrongTexts() {
         String[] texts = {
-            ";", "0", "x", "G1", "gg", "g;", "g-1", "g/", "g:", "g00", "g05", "g40", "g50", "g99", "g390", "g100", "g1w",
+            ";", "0", "x", "G1", "gg", "g;", "g-1", "g/", "g:", "g00", "g05", "g40", "g50", "g99", "g390", "g100",
+                    "g1w",
             "b;", "b00", "b01", "b121", "b122", "b130", "b200", "b1200", "b99b", "b999", "w0", "ww", "wg1", "w;;",
             "w;0", "g1;;", "g1,g2", "g1;w1", "g39;g40", "b12;b121;w"};
         int[] faults = {
@@ -117,7 +118,7 @@ public final class TextsTest {
     }
 
     private static void carryOut() {
-        RimGrains x = new RimGrains();
+        Grains x = new Grains();
         x.begin(1);
         Plates.type(x, "g31;g32;g33;g19;b12;g32;w");
         Check.due("carryOut()", x.carryOut(), 7);
@@ -134,7 +135,7 @@ public final class TextsTest {
         Plates.type(x, "g32;b12");
         Check.due("numbers are those of the moment", x.carryOut(), 2);
         Check.due("grains", x.count(0), 12);
-        RimGrains y = new RimGrains();
+        Grains y = new Grains();
         Plates.type(y, "w");
         Check.due("w alone", y.carryOut(), 1);
         Plates.type(y, "w;w;w;w;w;w;w;w;w;w;w;w;w;w;w;w;w;w;w;w;w;w;w;w;w;w;w;w;w;g5");
@@ -143,7 +144,7 @@ public final class TextsTest {
     }
 
     private static void carryOutStops() {
-        RimGrains x = new RimGrains();
+        Grains x = new Grains();
         x.begin(1);
         Plates.type(x, "g31;g31;w");
         Check.due("a cell that has a grain", x.carryOut(), 1);
@@ -171,7 +172,7 @@ public final class TextsTest {
     }
 
     private static void carryOutRefuses() {
-        RimGrains x = new RimGrains();
+        Grains x = new Grains();
         x.begin(1);
         Plates.type(x, "b99");
         x.carryOut();
@@ -191,7 +192,7 @@ public final class TextsTest {
     }
 
     private static void carryOutIsOneChange() {
-        RimGrains x = new RimGrains();
+        Grains x = new Grains();
         x.begin(1);
         String before = Plates.state(x);
         Plates.type(x, "g31;g32;g19;w");
@@ -208,7 +209,7 @@ public final class TextsTest {
     }
 
     private static void why() {
-        RimGrains x = new RimGrains();
+        Grains x = new Grains();
         for (int what = 0; what <= 2; what++) {
             Check.due("why(" + what + ") at first", x.why(what), NO_FAULT);
         }
@@ -227,7 +228,7 @@ public final class TextsTest {
     }
 
     private static void whyStays() {
-        RimGrains x = new RimGrains();
+        Grains x = new Grains();
         x.save();
         Plates.type(x, "w;g5;b0");
         x.carryOut();
@@ -245,7 +246,7 @@ public final class TextsTest {
         whyIs(x, "carryOut() that returned an error");
     }
 
-    private static void whyIs(RimGrains x, String behind) {
+    private static void whyIs(Grains x, String behind) {
         Check.due("why(0) behind " + behind, x.why(0), -2);
         Check.due("why(1) behind " + behind, x.why(1), 2);
         Check.due("why(2) behind " + behind, x.why(2), 5);

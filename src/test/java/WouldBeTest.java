@@ -13,14 +13,14 @@ public final class WouldBeTest {
         Check.end("WouldBeTest");
     }
 
-    private static void gone(RimGrains x, int rim, int answer, int place, int draws) {
+    private static void gone(Grains x, int rim, int answer, int place, int draws) {
         Check.due("ifGone(" + rim + ", 0)", x.ifGone(rim, 0), answer);
         Check.due("ifGone(" + rim + ", 1)", x.ifGone(rim, 1), place);
         Check.due("ifGone(" + rim + ", 2)", x.ifGone(rim, 2), draws);
     }
 
     private static void ifGone() {
-        RimGrains x = new RimGrains();
+        Grains x = new Grains();
         gone(x, 5, 1, 5, 1);
         x.lot(2084);
         gone(x, 5, 60, 5, 60);
@@ -42,7 +42,7 @@ public final class WouldBeTest {
     }
 
     private static void ifGoneAsGo() {
-        RimGrains x = Plates.grown();
+        Grains x = Plates.grown();
         x.set(RimGrains.STICK, 2);
         for (int rim = 0; rim < 40; rim++) {
             int before = x.count(17);
@@ -63,7 +63,7 @@ public final class WouldBeTest {
     }
 
     private static void ifGoneRefuses() {
-        RimGrains x = Plates.twoStems();
+        Grains x = Plates.twoStems();
         String before = Plates.everything(x);
         for (int what = 0; what <= 2; what++) {
             Check.due("a root there", x.ifGone(25, what), -2);
@@ -78,7 +78,7 @@ public final class WouldBeTest {
         Check.holds("changes nothing", before.equals(Plates.everything(x)));
     }
 
-    private static void broken(RimGrains x, int grain, int left, int reach, int depth, int open) {
+    private static void broken(Grains x, int grain, int left, int reach, int depth, int open) {
         Check.due("ifBroken(" + grain + ", 0)", x.ifBroken(grain, 0), left);
         Check.due("ifBroken(" + grain + ", 1)", x.ifBroken(grain, 1), reach);
         Check.due("ifBroken(" + grain + ", 2)", x.ifBroken(grain, 2), depth);
@@ -86,7 +86,7 @@ public final class WouldBeTest {
     }
 
     private static void ifBroken() {
-        RimGrains x = Plates.twoStems();
+        Grains x = Plates.twoStems();
         broken(x, 11, 13, 5, 2, 14);
         broken(x, 13, 15, 5, 2, 14);
         broken(x, 14, 16, 5, 3, 12);
@@ -104,7 +104,7 @@ public final class WouldBeTest {
     }
 
     private static void ifBrokenAsBreakOff() {
-        RimGrains x = Plates.grown();
+        Grains x = Plates.grown();
         for (int grain = 1; grain < x.count(0); grain++) {
             String before = Plates.everything(x);
             int left = x.ifBroken(grain, 0);
@@ -126,7 +126,7 @@ public final class WouldBeTest {
     }
 
     private static void ifBrokenRefuses() {
-        RimGrains x = Plates.twoStems();
+        Grains x = Plates.twoStems();
         String before = Plates.everything(x);
         for (int what = 0; what <= 3; what++) {
             Check.due("a root", x.ifBroken(10, what), -2);
