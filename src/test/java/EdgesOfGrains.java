@@ -62,6 +62,7 @@ final class EdgesOfGrains {
 
     /** The most that can be counted in 512 calls: 509 times 20 grains, with many steps. */
     private static void lastCall() {
+        Doc.says("What it is", "An object is used for at most 512 calls after it has been made;");
         RimGrains x = new RimGrains();
         Model model = new Model();
         x.set(RimGrains.PATIENCE, 200);

@@ -230,16 +230,41 @@ final class EdgesOfLooks {
         longestIs("not over the root", Built.plate(0, 49, 38, 37, 36, 39, 40), 4);
         longestIs("not over the root, and longer than any depth",
                 Built.plate(0, 49, 38, 37, 36, 35, 39, 40, 41), 6);
+        longestIs("the higher tree came first", Built.plate(0, 49, 38, 71), 3);
+        longestIs("the higher tree came last", Built.plate(0, 71, 49, 38), 3);
+        longestIs("the lowest of three came first", Built.plate(0, 59, 49, 38, 71, 82), 4);
+        longestIs("the lowest of three came between", Built.plate(0, 49, 38, 59, 71, 82), 4);
         longestIs("the longer of two trees", Built.plate(1, 99, 88, 109), 2);
         longestIs("the later of two trees", Built.plate(1, 99, 109, 98), 2);
         longestIs("the lying tee", Plates.lyingT(), 18);
         longestIs("the standing tee", Plates.doubleT(), 18);
         longestIs("around the rim", Plates.fullRim(), 29);
         longestIs("a full plate", Built.full(), 10);
+        longestOfFewer();
         for (int way : new int[] {-1, 2, MIN, MAX}) {
             Check.due("longest(" + way + ")", new Grains().longest(way), -1);
             Check.due("longest(" + way + ")", Built.full().longest(way), -1);
         }
+    }
+
+    /** Asked of one plate that loses grains, so that nothing of an earlier way may be left. */
+    private static void longestOfFewer() {
+        Grains x = Plates.lyingT();
+        longestIs("all", x, 18);
+        x.breakOff(26);
+        longestIs("over the other branch", x, 18);
+        x.breakOff(22);
+        longestIs("without both ends on the left", x, 17);
+        x.breakOff(6);
+        longestIs("without the left half", x, 9);
+        x.breakOff(2);
+        longestIs("the middle and one beside it", x, 1);
+        x.wash();
+        longestIs("the middle alone", x, 0);
+        x = Built.plate(0, 49, 71);
+        longestIs("over the root", x, 2);
+        x.wash();
+        longestIs("both washed away at once", x, 0);
     }
 
     private static void longestIs(String plate, Grains x, int longest) {
@@ -374,6 +399,7 @@ final class EdgesOfLooks {
     }
 
     private static void density() {
+        Doc.says("Terms", "All numbers are whole numbers, but where a double is told.");
         Doc.says("Promise 21", "Returns how thin the trees are.");
         Doc.says("Promise 21",
                 "Returns the grains, as a double, divided by the cells of the rings 0 to the reach together.");

@@ -64,6 +64,19 @@ final class EdgesOfTrees {
         Check.due("the holder's new number", washed.grain(3, 1), 1);
         washed.begin(0);
         cellsAre("a beginning numbers from 0 too", washed, 60);
+        stepsAndHoldersGoAlong();
+    }
+
+    /** The grains 6 to 10 of the column below the middle made 8, 7, 6, 1 and 0 steps. */
+    private static void stepsAndHoldersGoAlong() {
+        Grains x = Plates.doubleT();
+        x.breakOff(1);
+        int[] steps = {8, 7, 6, 1, 0};
+        for (int i = 0; i < steps.length; i++) {
+            Check.due("the new number of a grain of the column", x.grain(1 + i, 0), 71 + 11 * i);
+            Check.due("its steps go along", x.grain(1 + i, 8), steps[i]);
+            Check.due("so does its holder", x.grain(1 + i, 1), i);
+        }
     }
 
     private static void cellsAre(String plate, Grains x, int... cells) {

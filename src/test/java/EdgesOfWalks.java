@@ -140,7 +140,9 @@ final class EdgesOfWalks {
     }
 
     private static void holds(String directions, Grains x, int rim, int holderCell) {
+        int lot = x.count(17);
         Check.due(directions + ": sticks at once", x.go(rim), 1000 + Plates.RIM[rim]);
+        Check.due(directions + ": one lot for all of them", x.count(17), Lots.next(lot));
         Check.due(directions + ": the holder", x.grain(x.count(0) - 1, 1), x.cell(holderCell, 0));
     }
 
