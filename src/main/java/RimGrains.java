@@ -528,7 +528,7 @@ public final class RimGrains {
             gone = 0;
             walked = 0;
             for (int cell = 0; cell < CELLS; cell++) {
-                grainsByCell[cell] = NONE;
+                mark(cell, NONE);
             }
             for (int cell = 0; cell < CELLS; cell++) {
                 if (isRootCell(beginning, cell)) {
@@ -553,8 +553,14 @@ public final class RimGrains {
             cells[grains] = cell;
             holders[grains] = holder;
             steps[grains] = walkSteps;
-            grainsByCell[cell] = grains;
+            mark(cell, grains);
             grains++;
+        }
+
+        private void mark(int cell, int grain) {
+            if (Plate.isCell(cell)) {
+                grainsByCell[cell] = grain;
+            }
         }
 
         int change(int what, int value) {
@@ -588,14 +594,14 @@ public final class RimGrains {
                 int cell = cells[i];
                 if (falling[i]) {
                     newNumbers[i] = NONE;
-                    grainsByCell[cell] = NONE;
+                    mark(cell, NONE);
                 } else {
                     int holder = holders[i];
                     newNumbers[i] = kept;
                     cells[kept] = cell;
-                    holders[kept] = holder == NONE ? NONE : newNumbers[holder];
+                    holders[kept] = isGrain(holder) ? newNumbers[holder] : NONE;
                     steps[kept] = steps[i];
-                    grainsByCell[cell] = kept;
+                    mark(cell, kept);
                     kept++;
                 }
             }
@@ -777,7 +783,7 @@ public final class RimGrains {
         int dropTree(State state, int grain) {
             for (int i = 0; i < state.grains; i++) {
                 int holder = state.holderOf(i);
-                falling[i] = i == grain || (holder != NONE && falling[holder]);
+                falling[i] = i == grain || (state.isGrain(holder) && falling[holder]);
             }
             return state.drop(falling, newNumbers);
         }
@@ -785,8 +791,8 @@ public final class RimGrains {
         int dropTips(State state) {
             for (int i = 0; i < state.grains; i++) {
                 int holder = state.holderOf(i);
-                falling[i] = holder != NONE;
-                if (holder != NONE) {
+                falling[i] = state.isGrain(holder);
+                if (state.isGrain(holder)) {
                     falling[holder] = false;
                 }
             }
@@ -811,15 +817,19 @@ public final class RimGrains {
             }
             for (int i = grains - 1; i >= 0; i--) {
                 int holder = state.holderOf(i);
-                if (holder != NONE) {
+                if (isGrain(holder)) {
                     addToHolder(i, holder);
                 }
             }
         }
 
+        private boolean isGrain(int number) {
+            return number >= 0 && number < grains;
+        }
+
         private void readFromHolder(int grain, int holder) {
-            depths[grain] = holder == NONE ? 0 : depths[holder] + 1;
-            roots[grain] = holder == NONE ? grain : roots[holder];
+            depths[grain] = isGrain(holder) ? depths[holder] + 1 : 0;
+            roots[grain] = isGrain(holder) ? roots[holder] : grain;
             holding[grain] = 0;
             members[grain] = 1;
             highest[grain] = 0;
@@ -889,10 +899,10 @@ public final class RimGrains {
             }
             for (int rim = 0; rim < RIM_CELLS; rim++) {
                 int grain = firstMet(state, rim);
-                if (grain == NONE) {
-                    open++;
-                } else {
+                if (state.isGrain(grain)) {
                     catches[grain]++;
+                } else {
+                    open++;
                 }
             }
         }

@@ -13,6 +13,7 @@ final class EdgesOfWalks {
         patience();
         patienceBesideGrains();
         lastStep();
+        longestWalk();
         winds();
         blockedSteps();
         settings();
@@ -187,6 +188,28 @@ final class EdgesOfWalks {
         x.set(RimGrains.PATIENCE, 10);
         x.set(RimGrains.STICK, 3);
         goes("does not stick behind the last step: no lot more", x, 15, 10, 49, 11, 10);
+    }
+
+    /** Few walks are that long and stick: the plate and the lot were looked for by trying many. */
+    private static void longestWalk() {
+        for (int patience : new int[] {199, 200}) {
+            Grains x = new Grains();
+            x.begin(2);
+            x.set(RimGrains.WIND, 2);
+            x.set(RimGrains.WAY, 3);
+            x.lot(9873);
+            Check.due("six stick", x.rain(20), 6);
+            x.set(RimGrains.WIND, 3);
+            x.set(RimGrains.STICK, 1);
+            x.set(RimGrains.PATIENCE, patience);
+            x.lot(7414);
+            if (patience == 200) {
+                goes("sticks behind the greatest number of steps", x, 23, 1116, 116, 394, 200);
+                Check.due("its holder", x.grain(22, 1), 17);
+            } else {
+                goes("is lost one step before", x, 23, 199, 117, 392, 199);
+            }
+        }
     }
 
     private static Grains windy(int wind, int way, int lot) {

@@ -109,8 +109,18 @@ public final class LanguageTest {
             methods++;
             String head = method.group().substring(0, method.group().indexOf('\n')).trim();
             Check.holds(head + " is short", method.group().lines().count() <= 60);
+            indices(head, method.group());
         }
         Check.holds("methods are found", methods >= FACE.length);
         Check.holds("signs 1 to 127", source.chars().allMatch(c -> c >= 1 && c <= 127));
+    }
+
+    /** A number that is not NONE can still be no index: only a look at its range tells. */
+    private static void indices(String head, String method) {
+        Matcher compared = Pattern.compile("\\b([a-z]\\w*) [!=]= NONE\\b").matcher(method);
+        while (compared.find()) {
+            String name = compared.group(1);
+            Check.holds(head + " looks at the range of " + name, !method.contains("[" + name + "]"));
+        }
     }
 }
